@@ -651,8 +651,10 @@ public final class Springward {
         }
 
         float meanAge() {
-            float units = (float) water.units;
-            return units < 1 ? 0 : (float) water.agesIn(bottled) / units;
+            if (water.units < 1) {
+                return 0f;
+            }
+            return (float) water.agesIn(bottled) / (float) water.units;
         }
 
         int truth() {
@@ -788,7 +790,7 @@ public final class Springward {
                 Piece piece = tank.first;
                 while (piece != null) {
                     Piece behind = piece.next;
-                    lay(piece);
+                    putAway(piece);
                     piece = behind;
                 }
                 tank.startAt(null);
@@ -801,7 +803,7 @@ public final class Springward {
             for (int c = 0; c < CELLS; c++) {
                 Tank tank = tanks[c];
                 if (c == followedCell) {
-                    tank.add(piece(tank.came, units));
+                    tank.add(newPiece(tank.came, units));
                 }
                 tank.came += units;
             }
@@ -820,7 +822,7 @@ public final class Springward {
                 Piece behind = cut(piece, end);
                 followed += piece.units;
                 if (to == null) {
-                    lay(piece);
+                    putAway(piece);
                 } else {
                     piece.place += to.came - from.went;
                     to.add(piece);
@@ -841,7 +843,7 @@ public final class Springward {
             if (rest <= 0) {
                 return piece.next;
             }
-            Piece behind = piece(end, rest);
+            Piece behind = newPiece(end, rest);
             behind.next = piece.next;
             piece.units -= rest;
             return behind;
@@ -851,7 +853,7 @@ public final class Springward {
             return number < 0 || number >= CELLS ? null : tanks[number];
         }
 
-        private Piece piece(int place, int units) {
+        private Piece newPiece(int place, int units) {
             Piece piece = spare;
             if (piece == null) {
                 piece = new Piece();
@@ -860,11 +862,10 @@ public final class Springward {
             }
             piece.place = place;
             piece.units = units;
-            piece.next = null;
             return piece;
         }
 
-        private void lay(Piece piece) {
+        private void putAway(Piece piece) {
             piece.next = spare;
             spare = piece;
         }

@@ -13,6 +13,7 @@ public final class ModelTest {
     private final int mostYears;
     private final int mostUnits;
     private final int oddness;
+    private final int compounds;
     private final StringBuilder calls = new StringBuilder();
 
     private ModelTest(int run, int mostRain) {
@@ -22,6 +23,7 @@ public final class ModelTest {
         mostYears = 1 + dice.nextInt(6);
         mostUnits = 1 + dice.nextInt(dice.nextBoolean() ? 12 : 300);
         oddness = dice.nextInt(3) == 0 ? 6 : 40;
+        compounds = dice.nextInt(2) == 0 ? 1 : 8;
     }
 
     public static void main(String[] args) {
@@ -40,9 +42,9 @@ public final class ModelTest {
         }
         for (int i = 20; i < 505; i++) {
             int kind = dice.nextInt(100);
-            if (kind < 8) {
+            if (kind < 14) {
                 mountainCall();
-            } else if (kind < 24) {
+            } else if (kind < 28) {
                 passCall();
             } else if (kind < 48) {
                 wellCall();
@@ -94,7 +96,7 @@ public final class ModelTest {
 
     private void mountainCall() {
         int cell = number(9);
-        int kind = dice.nextInt(9);
+        int kind = dice.nextInt(12);
         if (kind < 2) {
             int years = odd(1 + dice.nextInt(dice.nextInt(2) == 0 ? 6 : 41));
             same("rock(" + cell + "," + years + ")", () -> x.rock(cell, years), () -> m.rock(cell, years));
@@ -104,8 +106,8 @@ public final class ModelTest {
         } else if (kind < 5) {
             int to = odd(dice.nextInt(4) == 0 ? dice.nextInt(12) - 2 : dice.nextInt(Math.floorMod(cell, 10) + 1) - 1);
             same("lead(" + cell + "," + to + ")", () -> x.lead(cell, to), () -> m.lead(cell, to));
-        } else if (kind < 7) {
-            int compound = number(8);
+        } else if (kind < 10) {
+            int compound = number(compounds);
             same("spill(" + cell + "," + compound + ")", () -> x.spill(cell, compound),
                     () -> m.spill(cell, compound));
         } else {
@@ -155,7 +157,7 @@ public final class ModelTest {
     }
 
     private void question() {
-        int kind = dice.nextInt(14);
+        int kind = dice.nextInt(16);
         int lot = lot();
         int cell = number(9);
         if (kind < 2) {
@@ -177,11 +179,11 @@ public final class ModelTest {
             same("best(" + lot + ")", () -> x.best(lot), () -> m.best(lot));
         } else if (kind < 11) {
             fromBoth(lot, cell);
-        } else if (kind < 12) {
-            int compound = number(8);
+        } else if (kind < 14) {
+            int compound = number(compounds);
             same("whence(" + lot + "," + compound + ")", () -> x.whence(lot, compound),
                     () -> m.whence(lot, compound));
-        } else if (kind < 13) {
+        } else if (kind < 15) {
             int what = number(7);
             same("sum(" + what + ")", () -> x.sum(what), () -> m.sum(what));
         } else {

@@ -382,11 +382,21 @@ public final class MountainTest {
         x.pass(1, 0);
         Check.due("17 units", 1 + 25, x, s -> s.flow(0));
         Check.due("17 nitrate", 10 + 25, x, s -> s.flow(1));
-        Check.due("17 oldest, not the first", 0, x, s -> s.flow(3));
+        Check.due("17 oldest", 0, x, s -> s.flow(3));
         Check.due("17 all of it", 40L + 1 + 26, x, s -> s.sum(2));
         for (int what : new int[] {-1, 4, Integer.MIN_VALUE, Integer.MAX_VALUE}) {
             refused("17 what " + what, Check.ARGUMENT, s -> s.flow(what));
         }
+        Springward y = new Springward();
+        y.lead(1, Springward.NONE);
+        y.rock(0, 1);
+        y.rock(1, 10);
+        y.spill(1, 2);
+        y.pass(2, 20);
+        // Cell 0 has led all of the year 0 on, and leads ahead of cell 1.
+        y.pass(1, 0);
+        Check.due("17 oldest, not the first", 0, y, s -> s.flow(3));
+        Check.due("17 compounds, not of the first", 4, y, s -> s.flow(2));
         Springward dry = new Springward();
         dry.pass(1, 4);
         dry.pass(1, 0);

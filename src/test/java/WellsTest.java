@@ -83,15 +83,22 @@ public final class WellsTest {
         x.lead(3, 0);
         x.well(0, 81);
         x.well(5, 1);
+        x.well(2, 5);
         x.pass(1, 30);
-        long[][] due = {{0, 0, 81}, {30, 0, 81}, {30, 30, 81}, {31, 0, 40}, {31, 30, 40}, {31, 31, 0},
+        x.bottle(2, 5);
+        // Cell 2 has 25 units now, all others have 30.
+        Check.due("9 no drought at first", 81, x, s -> s.wellOf(0, 3));
+        long[][] due = {{0, 0, 81}, {25, 0, 81}, {25, 25, 81}, {26, 0, 40}, {26, 25, 40}, {26, 26, 0},
             {100000, 100000, 0}, {100000, 0, 40}, {1, 1, 81}};
         for (long[] limits : due) {
             x.drought(2, (int) limits[0], (int) limits[1]);
             Check.due("9 limits " + limits[0] + " " + limits[1], limits[2], x, s -> s.wellOf(0, 3));
         }
-        x.drought(2, 31, 0);
+        x.drought(2, 26, 0);
         Check.due("9 half of 1", 0, x, s -> s.wellOf(1, 3));
+        x.drought(9, 26, 26);
+        Check.due("9 another cell", 81, x, s -> s.wellOf(0, 3));
+        x.drought(2, 26, 26);
         x.pass(1, 30);
         Check.due("9 rain ends it", 81, x, s -> s.wellOf(0, 3));
         for (int cell : new int[] {-1, 10, Integer.MIN_VALUE, Integer.MAX_VALUE}) {
@@ -394,6 +401,9 @@ public final class WellsTest {
         Check.due("14 the label was true", 1, x, s -> s.lotOf(0, 9));
         Check.due("14 false labels", 2L, x, s -> s.sum(6));
         Check.due("14 last", 0, x, s -> s.forbid(4));
+        for (int t : new int[] {0, 1, 3, 4, 5}) {
+            Check.due("14 forbidden for ever " + t, Check.STATE, x, s -> s.forbid(t));
+        }
         for (int treatment : new int[] {-1, 6, 32, Integer.MIN_VALUE, Integer.MAX_VALUE}) {
             refused("14 treatment " + treatment, Check.INDEX, s -> s.forbid(treatment));
         }
@@ -482,6 +492,9 @@ public final class WellsTest {
         x.bottle(0, 7);
         Check.due("20 a year", 1f, x, s -> s.age(1));
         Check.due("20 does not grow", 5f / 3f, x, s -> s.age(0));
+        x.pass(3, 1);
+        x.bottle(0, 1);
+        Check.due("20 a single unit", 3f, x, s -> s.age(2));
         Check.due("20 of two rains", (20 * 7 + 5 * 3) / 25f, twoRains(), s -> s.age(0));
         for (int lot : NO_NUMBERS) {
             refused("20 lot " + lot, Check.INDEX, s -> s.age(lot));

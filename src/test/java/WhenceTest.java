@@ -8,9 +8,12 @@ public final class WhenceTest {
 
     public static void main(String[] args) {
         promises22And23From();
+        promises22And23DripByDrip();
+        promises22And23CutDrip();
         promise23FollowsEachUnit();
         promises22And23Refused();
         promise24Whence();
+        promise24WhenceInAnyOrder();
         promise24WhenceRefused();
         promise25Sum();
         promise25SumsAgree();
@@ -70,6 +73,52 @@ public final class WhenceTest {
         both("years behind it", 10, x, 2, 0, 1);
         x.lead(2, Springward.NONE);
         both("led elsewhere behind it", 10, x, 2, 2, 0);
+    }
+
+    /** Water of one cell and year comes to a lot in many portions, one unit alone among them. */
+    private static void promises22And23DripByDrip() {
+        Springward x = new Springward();
+        x.rock(0, 40);
+        x.rock(1, 10);
+        x.lead(2, Springward.NONE);
+        x.well(0, 10000);
+        x.well(1, 10000);
+        x.pass(1, 20);
+        x.pass(1, 5);
+        x.pass(3, 0);
+        // In cell 0 then: 20 of its own, 2 of cell 1, 5 of its own, and 2, 2 and 1 of cell 1.
+        Check.due("22 units in the cell", 32, x, s -> s.cellOf(0, 0));
+        x.bottle(0, 21);
+        both("own", 20, x, 0, 0, 0);
+        both("a part of the first drip", 1, x, 0, 1, 0);
+        x.bottle(0, 9);
+        both("the rest of it, and of others", 1 + 2 + 1, x, 1, 1, 0);
+        both("own between them", 5, x, 1, 0, 1);
+        x.bottle(0, 2);
+        both("the last two", 2, x, 2, 1, 0);
+        x.bottle(1, 1);
+        both("a unit alone", 1, x, 3, 1, 0);
+        x.bottle(1, 17);
+        both("what never went on", 20 - 7 - 1, x, 4, 1, 0);
+        both("and what fell behind it", 5, x, 4, 1, 1);
+    }
+
+    /** A drip of which a part was bottled stays in front, and others come behind it. */
+    private static void promises22And23CutDrip() {
+        Springward x = new Springward();
+        x.rock(0, 40);
+        x.rock(1, 10);
+        x.lead(2, Springward.NONE);
+        x.well(0, 10000);
+        x.pass(1, 20);
+        x.pass(1, 5);
+        x.bottle(0, 21);
+        both("a part of the drip", 1, x, 0, 1, 0);
+        x.pass(3, 0);
+        Check.due("22 units in the cell", 27 - 21 + 5, x, s -> s.cellOf(0, 0));
+        x.bottle(0, 11);
+        both("its rest and all drips behind it", 1 + 2 + 2 + 1, x, 1, 1, 0);
+        both("the first lot still", 1, x, 0, 1, 0);
     }
 
     /** All units of each lot, by cell and year, are as many as the lot has. */
@@ -162,6 +211,50 @@ public final class WhenceTest {
         y.pass(1, 0);
         y.bottle(0, 10);
         Check.due("24 year and cell together", 9001, y, s -> s.whence(0, 0));
+    }
+
+    private static void promise24WhenceInAnyOrder() {
+        whences("all", new int[] {21 + 4}, 1000);
+        whences("its own of year 0 alone", new int[] {3}, Springward.NONE);
+        whences("lower cell ahead of a higher one", new int[] {5, 3}, 1000, 1000);
+        whences("higher cell ahead of a lower one", new int[] {6, 8}, 1000, 2000);
+        whences("higher cell alone", new int[] {6, 3}, 1000, 4000);
+        whences("younger water ahead of older", new int[] {9, 4}, 1000, 2000);
+        whences("younger water alone", new int[] {9, 3}, 1000, 1);
+        whences("the rest", new int[] {15, 10}, 1000, 5000);
+    }
+
+    private static void whences(String what, int[] units, int... due) {
+        Springward x = manyWaters();
+        for (int l = 0; l < units.length; l++) {
+            int lot = l;
+            x.bottle(0, units[l]);
+            Check.due("24 " + what + ", lot " + l, due[l], x, s -> s.whence(lot, 6));
+        }
+    }
+
+    /**
+     * In cell 0, by cell and year, 3 units each but one of the last: 0 of 0, 1 of 0, 4 of 0, 0 of 1,
+     * 2 of 0, 1 of 1, 4 of 1, 2 of 1, 5 of 0; with the compound 6 all of year 0 but that of cell 0,
+     * and that of cell 0 of year 1.
+     */
+    private static Springward manyWaters() {
+        Springward x = new Springward();
+        x.rock(0, 40);
+        x.rock(1, 1);
+        x.rock(2, 1);
+        x.lead(4, 0);
+        x.well(0, 10000);
+        for (int cell = 1; cell < 10; cell++) {
+            x.spill(cell, 6);
+        }
+        x.pass(1, 3);
+        x.rock(4, 1);
+        x.spill(0, 6);
+        x.pass(1, 3);
+        x.pass(1, 0);
+        x.pass(1, 0);
+        return x;
     }
 
     private static void promise24WhenceRefused() {
