@@ -230,13 +230,17 @@ public final class MountainTest {
         units(x, "7 two on", 13 - 2 + 2 + 2 + 4, 7 - 2 + 4, 14, 14, 14, 14, 14, 14, 10 - 2 + 1 + 4, 8 - 1 + 4);
         Check.due("7 fell", 140L, x, s -> s.sum(0));
         Check.due("7 came", 4L, x, s -> s.sum(2));
-        Springward many = new Springward();
-        Springward single = new Springward();
-        many.pass(5, 13);
-        for (int i = 0; i < 5; i++) {
-            single.pass(1, 13);
-        }
-        Check.equal("7 years alike", Story.of(many), Story.of(single));
+        Check.equal("7 years alike", Story.whole(() -> {
+            Springward many = new Springward();
+            many.pass(5, 13);
+            return many;
+        }), Story.whole(() -> {
+            Springward single = new Springward();
+            for (int i = 0; i < 5; i++) {
+                single.pass(1, 13);
+            }
+            return single;
+        }));
         Springward holding = new Springward();
         holding.pass(20, 4);
         Check.due("7 all is in the cells or came to the spring", 20L * 40, holding,

@@ -230,22 +230,6 @@ public final class WellsTest {
         refused("12 labelled, same treatment", Check.STATE, s -> s.treat(1, 1));
     }
 
-    /** A lot of water of one age, from cell 0 alone. */
-    private static Springward lotOf(int land, int age, int... treatments) {
-        Springward x = new Springward();
-        x.rock(0, 40);
-        x.lead(1, Springward.NONE);
-        x.land(0, land);
-        x.well(0, 10000);
-        x.pass(1, 20);
-        x.pass(age - 1, 0);
-        x.bottle(0, 10);
-        for (int treatment : treatments) {
-            x.treat(0, treatment);
-        }
-        return x;
-    }
-
     private static void labelled(String what, boolean isTrue, int water, Springward x) {
         Check.due(what, isTrue, x, s -> s.label(0, water));
         Check.due(what + ", told", isTrue ? 1 : 0, x, s -> s.lotOf(0, 9));
@@ -255,103 +239,48 @@ public final class WellsTest {
 
     private static void promise13LabelMineral() {
         int mineral = Springward.MINERAL;
-        labelled("13 old forest", true, mineral, lotOf(Springward.FOREST, 10));
-        labelled("13 young forest", false, mineral, lotOf(Springward.FOREST, 9));
-        labelled("13 old grass", true, mineral, lotOf(Springward.GRASS, 15));
-        labelled("13 field", false, mineral, lotOf(Springward.FIELD, 15));
-        labelled("13 treatment 0", true, mineral, lotOf(Springward.FOREST, 10, 0));
+        labelled("13 old forest", true, mineral, Waters.of(Springward.FOREST, 10));
+        labelled("13 young forest", false, mineral, Waters.of(Springward.FOREST, 9));
+        labelled("13 old grass", true, mineral, Waters.of(Springward.GRASS, 15));
+        labelled("13 field", false, mineral, Waters.of(Springward.FIELD, 15));
+        labelled("13 treatment 0", true, mineral, Waters.of(Springward.FOREST, 10, 0));
         for (int t = 1; t < 6; t++) {
-            labelled("13 treatment " + t, false, mineral, lotOf(Springward.FOREST, 10, t));
-            labelled("13 treatments 0, " + t, false, mineral, lotOf(Springward.FOREST, 10, 0, t));
+            labelled("13 treatment " + t, false, mineral, Waters.of(Springward.FOREST, 10, t));
+            labelled("13 treatments 0, " + t, false, mineral, Waters.of(Springward.FOREST, 10, 0, t));
         }
-        Springward forbidden = lotOf(Springward.FOREST, 10, 0);
+        Springward forbidden = Waters.of(Springward.FOREST, 10, 0);
         forbidden.forbid(0);
         labelled("13 treatment 0 forbidden", false, mineral, forbidden);
-        Springward other = lotOf(Springward.FOREST, 10, 0);
+        Springward other = Waters.of(Springward.FOREST, 10, 0);
         other.forbid(1);
         labelled("13 treatment 1 forbidden", true, mineral, other);
-        labelled("13 nitrate of 5 each", true, mineral, mixed(39 * 5));
-        labelled("13 nitrate above 5 each", false, mineral, mixed(39 * 5 + 1));
-        labelled("13 compound", false, mineral, spilled());
-        labelled("13 one unit too young", false, mineral, mixedAges(21));
-        labelled("13 no unit too young", true, mineral, mixedAges(20));
-    }
-
-    /**
-     * A lot of 39 old units of field, grass and forest with that nitrate, together. As its cell
-     * holds water for 40 years and has no more of it, none flows away.
-     */
-    private static Springward mixed(int nitrate) {
-        for (int field = 0; field <= 39; field++) {
-            for (int grass = 0; grass + field <= 39; grass++) {
-                if (10 * field + 3 * grass + 39 - field - grass == nitrate) {
-                    return mixed(field, grass);
-                }
-            }
-        }
-        throw new IllegalStateException("there is no such lot");
-    }
-
-    private static Springward mixed(int field, int grass) {
-        Springward x = new Springward();
-        x.rock(0, 40);
-        x.lead(1, Springward.NONE);
-        x.well(0, 10000);
-        int[] units = {39 - field - grass, grass, field};
-        for (int land = 0; land < 3; land++) {
-            x.land(0, land);
-            x.pass(1, units[land]);
-        }
-        x.pass(11, 0);
-        x.bottle(0, 39);
-        return x;
-    }
-
-    private static Springward spilled() {
-        Springward x = new Springward();
-        x.rock(0, 40);
-        x.well(0, 10000);
-        x.spill(0, 3);
-        x.pass(1, 20);
-        x.pass(12, 0);
-        x.bottle(0, 10);
-        return x;
-    }
-
-    /** 20 units are 11 years old, the others 9. */
-    private static Springward mixedAges(int units) {
-        Springward x = new Springward();
-        x.rock(0, 40);
-        x.lead(1, Springward.NONE);
-        x.well(0, 10000);
-        x.pass(1, 20);
-        x.pass(1, 0);
-        x.pass(1, 19);
-        x.pass(8, 0);
-        x.bottle(0, units);
-        return x;
+        labelled("13 nitrate of 5 each", true, mineral, Waters.mixed(39 * 5));
+        labelled("13 nitrate above 5 each", false, mineral, Waters.mixed(39 * 5 + 1));
+        labelled("13 compound", false, mineral, Waters.spilled());
+        labelled("13 one unit too young", false, mineral, Waters.mixedAges(21));
+        labelled("13 no unit too young", true, mineral, Waters.mixedAges(20));
     }
 
     private static void promise13LabelSpring() {
         int spring = Springward.SPRING;
-        labelled("13 young forest", true, spring, lotOf(Springward.FOREST, 2));
-        labelled("13 field", false, spring, lotOf(Springward.FIELD, 20));
-        labelled("13 compounds are no matter", true, spring, spilled());
-        labelled("13 nitrate of 8 each", true, spring, mixed(39 * 8));
-        labelled("13 nitrate above 8 each", false, spring, mixed(39 * 8 + 1));
-        labelled("13 treatments 0, 1", true, spring, lotOf(Springward.GRASS, 2, 0, 1));
+        labelled("13 young forest", true, spring, Waters.of(Springward.FOREST, 2));
+        labelled("13 field", false, spring, Waters.of(Springward.FIELD, 20));
+        labelled("13 compounds are no matter", true, spring, Waters.spilled());
+        labelled("13 nitrate of 8 each", true, spring, Waters.mixed(39 * 8));
+        labelled("13 nitrate above 8 each", false, spring, Waters.mixed(39 * 8 + 1));
+        labelled("13 treatments 0, 1", true, spring, Waters.of(Springward.GRASS, 2, 0, 1));
         for (int t = 2; t < 6; t++) {
-            labelled("13 treatment " + t, false, spring, lotOf(Springward.FOREST, 2, t));
+            labelled("13 treatment " + t, false, spring, Waters.of(Springward.FOREST, 2, t));
         }
         for (int t = 0; t < 2; t++) {
-            Springward forbidden = lotOf(Springward.FOREST, 2, t);
+            Springward forbidden = Waters.of(Springward.FOREST, 2, t);
             forbidden.forbid(t);
             labelled("13 forbidden treatment " + t, false, spring, forbidden);
-            Springward other = lotOf(Springward.FOREST, 2, t);
+            Springward other = Waters.of(Springward.FOREST, 2, t);
             other.forbid(1 - t);
             labelled("13 another forbidden treatment " + t, true, spring, other);
         }
-        Springward any = lotOf(Springward.FIELD, 2, 0, 1, 2, 3, 4, 5);
+        Springward any = Waters.of(Springward.FIELD, 2, 0, 1, 2, 3, 4, 5);
         any.forbid(5);
         labelled("13 any water is TABLE water", true, Springward.TABLE, any);
     }
@@ -502,17 +431,17 @@ public final class WellsTest {
     }
 
     private static void promise21Best() {
-        Check.due("21 mineral", 0, lotOf(Springward.FOREST, 10, 0), s -> s.best(0));
-        Check.due("21 young", 1, lotOf(Springward.FOREST, 9), s -> s.best(0));
-        Check.due("21 treated", 1, lotOf(Springward.FOREST, 10, 1), s -> s.best(0));
-        Check.due("21 spilled", 1, spilled(), s -> s.best(0));
-        Check.due("21 field", 2, lotOf(Springward.FIELD, 10), s -> s.best(0));
-        Check.due("21 treated more", 2, lotOf(Springward.FOREST, 10, 3), s -> s.best(0));
-        Check.due("21 nitrate 5", 0, mixed(39 * 5), s -> s.best(0));
-        Check.due("21 nitrate above 5", 1, mixed(39 * 5 + 1), s -> s.best(0));
-        Check.due("21 nitrate 8", 1, mixed(39 * 8), s -> s.best(0));
-        Check.due("21 nitrate above 8", 2, mixed(39 * 8 + 1), s -> s.best(0));
-        Springward x = lotOf(Springward.FOREST, 10, 0);
+        Check.due("21 mineral", 0, Waters.of(Springward.FOREST, 10, 0), s -> s.best(0));
+        Check.due("21 young", 1, Waters.of(Springward.FOREST, 9), s -> s.best(0));
+        Check.due("21 treated", 1, Waters.of(Springward.FOREST, 10, 1), s -> s.best(0));
+        Check.due("21 spilled", 1, Waters.spilled(), s -> s.best(0));
+        Check.due("21 field", 2, Waters.of(Springward.FIELD, 10), s -> s.best(0));
+        Check.due("21 treated more", 2, Waters.of(Springward.FOREST, 10, 3), s -> s.best(0));
+        Check.due("21 nitrate 5", 0, Waters.mixed(39 * 5), s -> s.best(0));
+        Check.due("21 nitrate above 5", 1, Waters.mixed(39 * 5 + 1), s -> s.best(0));
+        Check.due("21 nitrate 8", 1, Waters.mixed(39 * 8), s -> s.best(0));
+        Check.due("21 nitrate above 8", 2, Waters.mixed(39 * 8 + 1), s -> s.best(0));
+        Springward x = Waters.of(Springward.FOREST, 10, 0);
         x.label(0, Springward.TABLE);
         Check.due("21 whatever its label", 0, x, s -> s.best(0));
         x.forbid(0);

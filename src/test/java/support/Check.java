@@ -1,9 +1,15 @@
+import java.util.ArrayList;
+import java.util.EnumMap;
+import java.util.List;
+import java.util.Map;
+
 /** Compares answers with those that are due, and counts the wrong ones. */
 final class Check {
     static final String INDEX = "throws.IndexOutOfBoundsException";
     static final String ARGUMENT = "throws.IllegalArgumentException";
     static final String STATE = "throws.IllegalStateException";
 
+    private static final Map<Scene, String> UNTOUCHED = new EnumMap<>(Scene.class);
     private static int asked = 0;
     private static int wrong = 0;
 
@@ -16,6 +22,18 @@ final class Check {
 
     interface Make {
         Springward make();
+    }
+
+    interface Deed {
+        void on(Springward x);
+    }
+
+    /** A call that answers nothing. */
+    static Call deed(Deed deed) {
+        return x -> {
+            deed.on(x);
+            return "nothing";
+        };
     }
 
     // The exception's own class counts: what the machine throws is of a class below the due one.
@@ -41,9 +59,33 @@ final class Check {
 
     /** The call must throw as told, and an object after it must be as one without it. */
     static void refused(String what, String exception, Make maker, Call call) {
-        Springward x = maker.make();
-        due(what, exception, x, call);
-        equal(what + ": all that is told behind it", Story.of(x), Story.of(maker.make()));
+        due(what, exception, maker.make(), call);
+        String untouched = maker instanceof Scene
+                ? UNTOUCHED.computeIfAbsent((Scene) maker, Story::whole) : Story.whole(maker);
+        equal(what + ": all that is told behind it", Story.whole(() -> {
+            Springward x = maker.make();
+            answer(x, call);
+            return x;
+        }), untouched);
+    }
+
+    /** Refused in whatever state, and nothing is changed by it. */
+    static void refusedAnywhere(String what, String exception, Call call) {
+        for (Scene scene : Scene.values()) {
+            refused(what + ", " + scene, exception, scene, call);
+        }
+    }
+
+    /** Numbers below and above a range: near to it, far from it, and such as wrap round into it. */
+    static int[] outside(int least, int most) {
+        List<Integer> all = new ArrayList<>(List.of(least - 1, most + 1, Integer.MIN_VALUE, Integer.MAX_VALUE));
+        for (int far : new int[] {least - 2, most + 2, least + 32, least + 256, least + 65536,
+            Integer.MIN_VALUE + most, -most}) {
+            if ((far < least || far > most) && !all.contains(far)) {
+                all.add(far);
+            }
+        }
+        return all.stream().mapToInt(i -> i).toArray();
     }
 
     static void end() {
