@@ -24,6 +24,10 @@ final class Check {
         Springward make();
     }
 
+    interface CallOfOne {
+        Object on(Springward x, int argument);
+    }
+
     interface Deed {
         void on(Springward x);
     }
@@ -69,10 +73,25 @@ final class Check {
         }), untouched);
     }
 
+    static void refusedIn(Scene[] scenes, String what, String exception, Call call) {
+        for (Scene scene : scenes) {
+            refused(what + ", " + scene, exception, scene, call);
+        }
+    }
+
     /** Refused in whatever state, and nothing is changed by it. */
     static void refusedAnywhere(String what, String exception, Call call) {
-        for (Scene scene : Scene.values()) {
-            refused(what + ", " + scene, exception, scene, call);
+        refusedIn(Scene.values(), what, exception, call);
+    }
+
+    /** Refused with each of the arguments in whatever state. */
+    static void refusedOf(int[] arguments, String what, String exception, CallOfOne call) {
+        refusedOf(arguments, Scene.values(), what, exception, call);
+    }
+
+    static void refusedOf(int[] arguments, Scene[] scenes, String what, String exception, CallOfOne call) {
+        for (int argument : arguments) {
+            refusedIn(scenes, what + " of " + argument, exception, x -> call.on(x, argument));
         }
     }
 

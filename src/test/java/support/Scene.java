@@ -10,8 +10,8 @@ enum Scene implements Check.Make {
 
     /**
      * The year 20. Wells: 0 may take 40 more, 1 may take 31 more, 2 more than its cell has. Lots: 0
-     * has no label, 1 is MINERAL, 2 a false SPRING, 3 TABLE, 4 recalled. The treatment 3 is
-     * forbidden. Cells: 5 has a contract for 10 years, 6 for one; 1 and 4 are fields without one, 7
+     * has no label, 1 is MINERAL, 2 a false SPRING with a compound, 3 TABLE, 4 a false SPRING that
+     * is recalled. The treatment 3 is forbidden. Cells: 5 has a contract for 10 years, 6 for one; 1 and 4 are fields without one, 7
      * is grass; the travel from 2 is 4 years and from 3 it is 5; compounds wait on 0 and 8.
      */
     BUSY {
@@ -22,7 +22,9 @@ enum Scene implements Check.Make {
             x.well(0, 100);
             x.well(1, 61);
             x.well(8, 10000);
-            x.pass(20, 10);
+            x.pass(5, 10);
+            x.spill(1, 5);
+            x.pass(15, 10);
             x.share(3);
             x.spill(0, 1);
             x.spill(8, 3);
@@ -93,10 +95,14 @@ enum Scene implements Check.Make {
         }
     };
 
+    /** All but NEW, in which there are no wells and lots. */
+    static final Scene[] USED = {BUSY, PARCHED, HALVED, FULL, LATE, LAST};
+
     private static void mountain(Springward x) {
         x.rock(0, 40);
         x.rock(1, 40);
         x.rock(2, 4);
+        x.lead(1, Springward.NONE);
         x.lead(2, Springward.NONE);
         x.lead(3, Springward.NONE);
         for (int cell : new int[] {1, 4, 5, 6}) {
@@ -105,7 +111,6 @@ enum Scene implements Check.Make {
         x.land(7, Springward.GRASS);
         x.contract(5, 30, 30);
         x.contract(6, 21, 40);
-        x.spill(1, 5);
     }
 
     private static void lots(Springward x) {
