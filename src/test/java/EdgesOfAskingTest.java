@@ -630,6 +630,14 @@ public final class EdgesOfAskingTest {
             int compound = k;
             Check.due("24 the first cell and year, compound " + k, 0, least, s -> s.whence(0, compound));
         }
+        Springward recalled = Waters.spilled();
+        recalled.treat(0, 1);
+        recalled.label(0, SPRING);
+        recalled.forbid(1);
+        Check.due("24 a recalled lot", 1, recalled, s -> s.lotOf(0, 10));
+        Check.due("24 of a recalled lot", 0, recalled, s -> s.whence(0, 3));
+        Check.due("24 its units", 10, recalled, s -> s.from(0, 0, 0));
+        Check.due("24 its units, followed", 10, recalled, s -> s.fromAnew(0, 0, 0));
         Doc.says("NONE without one.");
         for (int k = 1; k < 7; k++) {
             int compound = k;
@@ -746,10 +754,11 @@ public final class EdgesOfAskingTest {
         sums("25 another one", x, 40, 32, 4, 4, 6, 12, 0);
         x.label(0, MINERAL);
         sums("25 a false label", x, 40, 32, 4, 4, 6, 12, 1);
+        x.treat(1, 0);
         x.label(1, SPRING);
         sums("25 a true label", x, 40, 32, 4, 4, 6, 12, 1);
-        x.forbid(0);
-        sums("25 forbidden", x, 40, 32, 4, 4, 6, 12, 1);
+        Check.due("25 one is recalled", 1, x, s -> s.forbid(0));
+        sums("25 recalled", x, 40, 32, 4, 4, 6, 12, 1);
         x.pass(1, 0);
         sums("25 no contract any more", x, 40, 32, 4, 4, 6, 12, 1);
         Doc.says("Throws `IllegalArgumentException` if what is out of range");
@@ -814,12 +823,10 @@ public final class EdgesOfAskingTest {
     private static Springward inquired(Scene scene) {
         Springward x = scene.make();
         for (int cell = 0; cell < 10; cell++) {
-            for (int year = 0; year < 3; year++) {
-                int atCell = cell;
-                int inYear = year;
-                Check.answer(x, s -> s.fromAnew(0, atCell, inYear));
-                Check.answer(x, s -> s.whence(0, inYear));
-            }
+            int atCell = cell;
+            Check.answer(x, s -> s.fromAnew(0, atCell, 5));
+            Check.answer(x, s -> s.fromAnew(4, atCell, 9));
+            Check.answer(x, s -> s.whence(2, 5));
         }
         return x;
     }

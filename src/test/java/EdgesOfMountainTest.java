@@ -70,6 +70,8 @@ public final class EdgesOfMountainTest {
         x.pass(1, 0);
         Check.due("2 a third of 12 flows", 4, x, s -> s.flow(0));
         Check.due("2 and a sixth comes", 12 - 4 + 2, x, s -> s.cellOf(0, 0));
+        Check.due("2 with a contract too", 9, contracted(), s -> s.rock(4, 8));
+        waitsOn("2", s -> s.rock(4, 8));
         Doc.says("- `cell`: 0 to 9");
         Doc.says("- `years`: 1 to 40");
         Doc.says("Returns what it was.");
@@ -92,6 +94,24 @@ public final class EdgesOfMountainTest {
         }
     }
 
+    /** Cell 4 has a contract, rock for 9 years, and the compound 6 waits there. */
+    private static Springward contracted() {
+        Springward x = new Springward();
+        x.land(4, FIELD);
+        x.rock(4, 9);
+        x.contract(4, 2, 5);
+        x.spill(4, 6);
+        return x;
+    }
+
+    private static void waitsOn(String promise, Check.Call call) {
+        Springward x = contracted();
+        x.pass(2, 0);
+        call.on(x);
+        Check.due(promise + " what waits waits on", 64 + 1, x, s -> s.spill(4, 0));
+        Check.due(promise + " the contract's cost stays", 10L, x, s -> s.sum(4));
+    }
+
     private static void promise2Refused() {
         Doc.says("Throws `IndexOutOfBoundsException` if there is no such cell");
         Check.refusedOf(NO_CELLS, "2 rock", Check.INDEX, (s, cell) -> s.rock(cell, 7));
@@ -105,6 +125,7 @@ public final class EdgesOfMountainTest {
     private static void promise3() {
         Doc.under("Promise 3: land");
         Doc.says("`int land(int cell, int land)");
+        waitsOn("3", s -> s.land(4, GRASS));
         Doc.says("- `cell`: 0 to 9");
         Doc.says("- `land`: FOREST to FIELD");
         Doc.says("Returns what it was.");
@@ -166,6 +187,8 @@ public final class EdgesOfMountainTest {
             Check.due("4 water goes there, cell " + c, units[c], x, s -> s.cellOf(cell, 0));
         }
         Check.due("4 and to the spring", 14, x, s -> s.flow(0));
+        Check.due("4 with a contract too", 3, contracted(), s -> s.lead(4, 1));
+        waitsOn("4", s -> s.lead(4, 1));
         Doc.says("- `cell`: 0 to 9");
         Doc.says("- `to`: a cell with a lower number, or NONE, the spring");
         Doc.says("Returns to where it led.");

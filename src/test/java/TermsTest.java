@@ -149,6 +149,24 @@ public final class TermsTest {
         Check.due("followed from the last year", 2, x, s -> s.fromAnew(0, 0, 299));
         Check.due("no rain in the year 300", 0, x, s -> s.from(0, 0, 300));
         Check.due("bottled in the year 300", 300, x, s -> s.lotOf(0, 3));
+        inTheLastYear();
+    }
+
+    /** But for another year, all may be called in the year 300. */
+    private static void inTheLastYear() {
+        Springward x = Scene.LAST.make();
+        Check.due("a well in the last year", 3, x, s -> s.well(8, 20));
+        Check.due("a lot in the last year", 5, x, s -> s.bottle(3, 1));
+        Check.due("a treatment in the last year", 2, x, s -> s.treat(5, 1));
+        Check.due("a label in the last year", true, x, s -> s.label(5, TABLE));
+        Check.due("forbidden in the last year", 0, x, s -> s.forbid(5));
+        Check.due("land in the last year", FIELD, x, s -> s.land(5, FIELD));
+        Check.due("a contract in the last year", "nothing", x, Check.deed(s -> s.contract(5, 30, 1)));
+        Check.due("a spill in the last year", 4, x, s -> s.spill(9, 2));
+        Check.due("rock in the last year", 5, x, s -> s.rock(9, 6));
+        Check.due("a lead in the last year", 8, x, s -> s.lead(9, 0));
+        Check.due("a share in the last year", 3, x, s -> s.share(4));
+        Check.due("a drought in the last year", "nothing", x, Check.deed(s -> s.drought(0, 1, 1)));
     }
 
     private static void wholeUnits() {
@@ -457,9 +475,19 @@ public final class TermsTest {
         x.spill(0, 2);
         x.pass(20, 0);
         Check.due("still there", 6, x, s -> s.spill(0, 1));
-        x.pass(1, 1);
-        x.bottle(0, 1);
+        x.rock(0, 6);
+        x.land(0, FIELD);
+        x.contract(0, 1, 1);
+        x.lead(9, 0);
+        x.drought(0, 1, 0);
+        x.share(0);
+        Check.due("still there, whatever was called", 6, x, s -> s.spill(0, 1));
+        x.pass(1, 2);
+        Check.due("more of it", 8, x, s -> s.spill(0, 3));
+        x.drought(0, 0, 0);
+        x.bottle(0, 2);
         Check.due("in the rain of the year 20", 20, x, s -> s.whence(0, 2));
+        Check.due("bottling takes nothing of what waits", 9, x, s -> s.spill(0, 0));
     }
 
     private static void whatAContractCosts() {

@@ -92,7 +92,6 @@ final class Story {
             int well = w;
             tell(x, told, s -> s.bottle(well, 1));
         }
-        tell(x, told, s -> s.fromAnew(5, 0, 3));
         tell(x, told, s -> s.share(9));
         for (int lot : LOTS) {
             tell(x, told, s -> s.treat(lot, 3));
@@ -110,6 +109,26 @@ final class Story {
             tell(x, told, s -> s.sum(4));
         }
         tell(x, told, s -> s.well(2, 3));
+        followed(x, told, 0, 9, 6);
+        followed(x, told, 1, 1, 6);
+        // All of that cell, and what fell there last.
+        followed(x, told, 2, x.cellOf(8, 0), 5);
+    }
+
+    /** Bottles a lot and follows the water in it of the greatest or the least age, on each cell. */
+    private static void followed(Springward x, StringBuilder told, int well, int units, int age) {
+        String number = Check.answer(x, s -> s.bottle(well, units));
+        told.append(number).append(' ');
+        if (number.startsWith("throws")) {
+            return;
+        }
+        int lot = Integer.parseInt(number);
+        int year = x.lotOf(lot, 3) - x.lotOf(lot, age);
+        for (int c = 0; c < 10; c++) {
+            int cell = c;
+            tell(x, told, s -> s.from(lot, cell, year));
+            tell(x, told, s -> s.fromAnew(lot, cell, year));
+        }
     }
 
     private static void tell(Springward x, StringBuilder told, Check.Call call) {
