@@ -2,57 +2,69 @@ import java.lang.reflect.Constructor;
 import java.lang.reflect.Field;
 import java.lang.reflect.Method;
 import java.lang.reflect.Modifier;
+import java.util.ArrayList;
+import java.util.List;
 import java.util.Set;
 import java.util.TreeSet;
+import java.util.regex.Matcher;
+import java.util.regex.Pattern;
 
 /** The face is the document's, with its throws clauses, and nothing but private beside it. */
 public final class FaceTest {
-    private static final String INDEX = "java.lang.IndexOutOfBoundsException";
-    private static final String ARGUMENT = "java.lang.IllegalArgumentException";
-    private static final String STATE = "java.lang.IllegalStateException";
-
-    private static final String[] FACE = {
-        "int rock(int,int) throws " + INDEX + "," + ARGUMENT,
-        "int land(int,int) throws " + INDEX + "," + ARGUMENT + "," + STATE,
-        "int lead(int,int) throws " + INDEX + "," + ARGUMENT,
-        "int spill(int,int) throws " + INDEX + "," + STATE,
-        "void contract(int,int,int) throws " + INDEX + "," + ARGUMENT + "," + STATE,
-        "int pass(int,int) throws " + ARGUMENT + "," + STATE,
-        "int well(int,int) throws " + INDEX + "," + ARGUMENT + "," + STATE,
-        "void drought(int,int,int) throws " + INDEX + "," + ARGUMENT,
-        "int share(int) throws " + ARGUMENT,
-        "int bottle(int,int) throws " + INDEX + "," + ARGUMENT + "," + STATE,
-        "int treat(int,int) throws " + INDEX + "," + STATE,
-        "boolean label(int,int) throws " + INDEX + "," + ARGUMENT + "," + STATE,
-        "int forbid(int) throws " + INDEX + "," + STATE,
-        "int year()",
-        "int cellOf(int,int) throws " + INDEX + "," + ARGUMENT,
-        "int flow(int) throws " + ARGUMENT,
-        "int wellOf(int,int) throws " + INDEX + "," + ARGUMENT,
-        "int lotOf(int,int) throws " + INDEX + "," + ARGUMENT,
-        "float age(int) throws " + INDEX,
-        "int best(int) throws " + INDEX,
-        "int from(int,int,int) throws " + INDEX,
-        "int fromAnew(int,int,int) throws " + INDEX,
-        "int whence(int,int) throws " + INDEX,
-        "long sum(int) throws " + ARGUMENT,
-    };
-
-    private static final String[] CONSTANTS = {"NONE=-1", "FOREST=0", "GRASS=1", "FIELD=2", "MINERAL=0",
-        "SPRING=1", "TABLE=2"};
+    private static final Pattern METHOD =
+            Pattern.compile("public (\\w+) (\\w+)\\(([^)]*)\\)(?: throws ([^;]+))?;");
+    private static final Pattern CONSTANTS = Pattern.compile("public static final int ([^;]+);");
 
     private FaceTest() {
     }
 
     public static void main(String[] args) throws IllegalAccessException {
+        Doc.under("The public face");
+        everyLineIsRead();
         Set<String> names = new TreeSet<>();
         methods(names);
         constants();
         constructors();
         insideClasses(names);
+        sizes();
         Check.equal("the class is public and final", Modifier.toString(Springward.class.getModifiers()),
                 "public final");
-        Check.end();
+        Doc.end();
+    }
+
+    private static void everyLineIsRead() {
+        for (String line : Doc.face()) {
+            boolean isRead = METHOD.matcher(line).matches() || CONSTANTS.matcher(line).matches()
+                    || line.equals("public final class Springward {") || line.equals("public Springward();")
+                    || line.equals("}");
+            Check.equal("the face has the line " + line, "" + isRead, "true");
+        }
+    }
+
+    /** The methods as the document has them, in the words of Method.toGenericString. */
+    private static Set<String> methodsOfTheDocument() {
+        Set<String> due = new TreeSet<>();
+        for (String line : Doc.face()) {
+            Matcher method = METHOD.matcher(line);
+            if (method.matches()) {
+                String types = method.group(3).replaceAll("(\\w+) \\w+", "$1").replace(" ", "");
+                String listed = method.group(4) == null ? ""
+                        : " throws java.lang." + method.group(4).replace(", ", ",java.lang.");
+                due.add(method.group(1) + " " + method.group(2) + "(" + types + ")" + listed);
+            }
+        }
+        return due;
+    }
+
+    private static Set<String> constantsOfTheDocument() {
+        Set<String> due = new TreeSet<>();
+        for (String line : Doc.face()) {
+            Matcher constants = CONSTANTS.matcher(line);
+            if (constants.matches()) {
+                due.addAll(List.of(constants.group(1).replace(" = ", "=").split(", ")));
+            }
+        }
+        return due;
     }
 
     private static void methods(Set<String> names) {
@@ -63,7 +75,8 @@ public final class FaceTest {
                 got.add(method.toGenericString().replace("public ", "").replace("Springward.", ""));
             }
         }
-        Check.equal("public methods", got.toString(), new TreeSet<>(Set.of(FACE)).toString());
+        Check.equal("public methods", got.toString(), methodsOfTheDocument().toString());
+        Check.equal("how many methods", "" + got.size(), "24");
         for (Method method : Springward.class.getDeclaredMethods()) {
             if (!Modifier.isPublic(method.getModifiers())) {
                 hidden(method.getName(), method.getModifiers(), names);
@@ -81,7 +94,8 @@ public final class FaceTest {
         for (Field field : Springward.class.getDeclaredFields()) {
             int modifiers = field.getModifiers();
             if (Modifier.isPublic(modifiers)) {
-                Check.equal(field.getName(), Modifier.toString(modifiers), "public static final");
+                Check.equal(field.getName(), Modifier.toString(modifiers) + " " + field.getType(),
+                        "public static final int");
                 got.add(field.getName() + "=" + field.get(null));
             } else {
                 Check.equal(field.getName() + " is private", "" + Modifier.isPrivate(modifiers), "true");
@@ -90,7 +104,8 @@ public final class FaceTest {
                 Check.equal(field.getName() + " is final", "" + Modifier.isFinal(modifiers), "true");
             }
         }
-        Check.equal("constants", got.toString(), new TreeSet<>(Set.of(CONSTANTS)).toString());
+        Check.equal("constants", got.toString(), constantsOfTheDocument().toString());
+        Check.equal("how many constants", "" + got.size(), "7");
     }
 
     private static void constructors() {
@@ -105,6 +120,27 @@ public final class FaceTest {
             for (Method method : inside.getDeclaredMethods()) {
                 Check.equal(inside + "." + method.getName() + " has a public method's name",
                         "" + names.contains(method.getName()), "false");
+            }
+        }
+    }
+    /** LANGUAGE.md's rules 5 and 11, in all classes. */
+    private static void sizes() {
+        List<Class<?>> all = new ArrayList<>(List.of(Springward.class.getDeclaredClasses()));
+        all.add(Springward.class);
+        Check.equal(all.size() + " classes are some twelve at most", "" + (all.size() <= 12), "true");
+        for (Class<?> each : all) {
+            int fields = 0;
+            for (Field field : each.getDeclaredFields()) {
+                if (Modifier.isStatic(field.getModifiers())) {
+                    String constant = Modifier.isFinal(field.getModifiers()) + " " + field.getType();
+                    Check.equal(each + "." + field.getName() + " is a constant", constant, "true int");
+                } else {
+                    fields++;
+                }
+            }
+            Check.equal(fields + " fields of " + each + " are some twenty at most", "" + (fields <= 20), "true");
+            for (Method method : each.getDeclaredMethods()) {
+                Check.equal(method + " takes seven at most", "" + (method.getParameterCount() <= 7), "true");
             }
         }
     }

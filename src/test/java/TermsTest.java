@@ -62,6 +62,10 @@ public final class TermsTest {
         firstListedException();
         refusedCallsChangeNothing();
         theConstants();
+        Doc.under("Not promised");
+        Doc.saysNoAnswer("How the state is held inside the object is free");
+        Doc.saysNoAnswer("Use of one object from several threads");
+        Doc.saysNoAnswer("Nothing is promised beyond the answers and state changes");
         Doc.end();
     }
 

@@ -4,8 +4,10 @@ import java.nio.file.Files;
 import java.nio.file.Path;
 import java.util.ArrayList;
 import java.util.LinkedHashMap;
+import java.util.LinkedHashSet;
 import java.util.List;
 import java.util.Map;
+import java.util.Set;
 
 /**
  * The document's sentences, by its headings. A test says which sentence it is for; a sentence under
@@ -14,6 +16,7 @@ import java.util.Map;
  */
 final class Doc {
     private static final Path PAGE = Path.of("../shared/DOC.md");
+    private static final String TITLE = "Springward";
     private static final Map<String, List<String>> PAGES = read();
     private static final Map<String, List<String>> LEFT = new LinkedHashMap<>();
 
@@ -38,6 +41,27 @@ final class Doc {
     /** The sentence that begins so tells nothing that a call could answer. */
     static void saysNoAnswer(String start) {
         says(start);
+    }
+
+    /** All headings of the document but its title. */
+    static Set<String> headings() {
+        Set<String> titles = new LinkedHashSet<>(PAGES.keySet());
+        titles.remove(TITLE);
+        return titles;
+    }
+
+    /** The lines of the class's face, as they stand in the document. */
+    static List<String> face() {
+        List<String> face = new ArrayList<>();
+        boolean inCode = false;
+        for (String line : lines()) {
+            if (line.startsWith("```")) {
+                inCode = !inCode;
+            } else if (inCode) {
+                face.add(line.trim());
+            }
+        }
+        return face;
     }
 
     static void end() {
